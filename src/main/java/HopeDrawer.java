@@ -375,6 +375,9 @@ public final class HopeDrawer {
             if (ahead.where[letter] == Office.WITH_READER) {
                 times++;
             }
+            if (!text.hasChanceOfWet()) {
+                return times * s;
+            }
         }
         return times;
     }
@@ -1172,6 +1175,11 @@ public final class HopeDrawer {
 
         int seed() {
             return settings[2];
+        }
+
+        /** Without it all seeds go the same way. */
+        boolean hasChanceOfWet() {
+            return wet() > 0 && wet() < 100;
         }
 
         boolean hasName(long name) {

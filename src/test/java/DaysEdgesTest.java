@@ -45,9 +45,11 @@ public final class DaysEdgesTest {
         S.holds("Terms", "LIKES, RATHERS, held to 0 .. 99", DaysEdgesTest::heldTo);
         S.holds("Terms", "RETURNS: more than 0: it is sent back.", DaysEdgesTest::returnsMoreThanNone);
         S.holds("Terms", "ANSWERS of a LETTER and an earlier one", DaysEdgesTest::answersEarlier);
-        S.holds("Terms", "age: how many days later it came; day; which: the later one's number; had: 0)",
+        S.holds("Terms", "(apart: how much their WANTS differ; hand, grief: the later one's; taste: the earlier one's HAND;"
+            + " patience: the earlier one's GRIEF; age: how many days later it came; day; which: the later one's number; had: 0)",
             DaysEdgesTest::answersVars);
         S.holds("Terms", "more than 0: it ANSWERS it.", DaysEdgesTest::answersMoreThanNone);
+        S.holds("Terms", "then h and h moved 15 bits down (zeros come in), likewise", DaysEdgesTest::lotOfFarDays);
         S.holds("Terms", "the rest of h, moved 1 bit down likewise, by n (32 bits that wrap).", DaysEdgesTest::lot);
     }
 
@@ -261,9 +263,26 @@ public final class DaysEdgesTest {
         }
     }
 
+    private static void lotOfFarDays() {
+        int[] seeds = {0, 1, 7, 9999};
+        int[] lots = {65, 7, 83, 46};
+        for (int i = 0; i < seeds.length; i++) {
+            HopeDrawer wet = Check.drawerWith("wet " + (lots[i] + 1) + "; seed " + seeds[i] + ";");
+            HopeDrawer dry = Check.drawerWith("wet " + lots[i] + "; seed " + seeds[i] + ";");
+            for (int day = 0; day < 3000; day += 60) {
+                wet.days(60);
+                dry.days(60);
+            }
+            S.due("day", wet.count(2), 3000);
+            S.due("seed " + seeds[i] + ", one more than its lot", wet.count(12), 1);
+            S.due("seed " + seeds[i] + ", its lot", dry.count(12), 0);
+        }
+    }
+
     // ---- a day ----
 
     private static void day() {
+        S.holds("Terms", "DAYS are counted on.", DaysEdgesTest::countedOn);
         S.holds("Terms", "A LETTER is TO COME (ahead of the day on which it comes), on the SHELF, with a READER, or BURNT.",
             DaysEdgesTest::whereLettersAre);
         S.holds("Terms", "if the sacks are not WET (LOT 100 of the SEED and 4 * the day is less than that)",
@@ -281,6 +300,21 @@ public final class DaysEdgesTest {
         S.holds("Terms", "if n is more than 0 and the day and 1 is a multiple of it, each WANT turns.",
             DaysEdgesTest::wantsTurn);
         S.holds("Terms", "It is the next day.", DaysEdgesTest::nextDay);
+    }
+
+    private static void countedOn() {
+        HopeDrawer x = Check.drawerWith("letter a 1 1 1 99; reader r 1 1 1; rathers = day;");
+        S.due("from 0 on", x.count(2), 0);
+        for (int i = 1; i <= 5; i++) {
+            S.due("counted on", x.days(60), 60 * i);
+        }
+        S.due("above what a letter's day can be", x.count(2), 300);
+        S.due("its age", x.letter(0, 7), 201);
+        x.likedIn(60);
+        S.due("looking ahead counts none", x.count(2), 300);
+        x.undo();
+        S.due("undone", x.count(2), 240);
+        S.due("and on from there", x.days(1), 241);
     }
 
     private static void whereLettersAre() {
@@ -558,16 +592,47 @@ public final class DaysEdgesTest {
     // ---- promises 6 to 9 ----
 
     private static void whatIs() {
+        S.holds("Promise 6", "4: 0 TO COME, 1 on the SHELF, 2 with a READER, 3 BURNT", DaysEdgesTest::letterWhere);
         S.holds("Promise 6", "5 which READER (-2: none)", DaysEdgesTest::letterWithNobody);
+        S.holds("Promise 6", "6 how often SENT BACK", DaysEdgesTest::letterSentBack);
         S.holds("Promise 6", "7 age now.", DaysEdgesTest::letterAge);
         S.holds("Promise 6", "NONE for others.", DaysEdgesTest::letterOthers);
         S.holds("Promise 7", "what 0 WANT now", DaysEdgesTest::readerWantNow);
         S.holds("Promise 7", "3 the LETTER they have (-2: none)", DaysEdgesTest::readerWithNone);
+        S.holds("Promise 7", "4 how many they had so far.", DaysEdgesTest::readerHad);
         S.holds("Promise 7", "NONE for others.", DaysEdgesTest::readerOthers);
         S.holds("Promise 8", "Of a LETTER and a READER now, wherever it is", DaysEdgesTest::tellsWherever);
         S.holds("Promise 8", "2: 1 RETURNS, else 0.", DaysEdgesTest::tellsReturns);
         S.holds("Promise 8", "NONE for others.", DaysEdgesTest::tellsOthers);
         S.holds("Promise 9", "NONE: no such ones, not earlier.", DaysEdgesTest::answersNone);
+    }
+
+    private static void letterWhere() {
+        HopeDrawer x = fourPlaces();
+        int[] where = {2, 1, 0, 3};
+        for (int letter = 0; letter < 4; letter++) {
+            S.due("letter " + letter, x.letter(letter, 4), where[letter]);
+        }
+        // On the day on which it comes it is to come until the day has gone by.
+        x.days(1);
+        S.due("day 2", x.count(2), 2);
+        S.due("vow on its day", x.letter(2, 4), 0);
+        x.days(1);
+        S.due("vow behind its day", x.letter(2, 4), 2);
+    }
+
+    private static void letterSentBack() {
+        HopeDrawer x = Check.drawerWith("letter a 1 1 1 0; letter b 0 1 1 0; reader r 1 1 1; reader s 1 1 1; returns = hand;");
+        int[] due = {0, 0, 1, 2, 2};
+        for (int day = 0; day < due.length; day++) {
+            S.due("a on day " + day, x.letter(0, 6), due[day]);
+            S.due("b on day " + day, x.letter(1, 6), 0);
+            x.days(1);
+        }
+        x.takeBack(1);
+        S.due("taken back by hand", x.letter(1, 6), 0);
+        x.burn(1);
+        S.due("burnt by hand", x.letter(1, 6), 0);
     }
 
     private static void letterWithNobody() {
@@ -640,6 +705,25 @@ public final class DaysEdgesTest {
         S.due("taken back", x.reader(2, 3), -2);
         x.undo();
         S.due("undone", x.reader(2, 3), 2);
+    }
+
+    private static void readerHad() {
+        HopeDrawer x = Check.drawerWith("letter a 1 1 1 0; letter b 1 1 1 0; reader r 1 1 1; reader s 1 1 1; returns = 1;");
+        int[] due = {0, 1, 2, 2, 2};
+        for (int day = 0; day < due.length; day++) {
+            S.due("on day " + day, x.reader(0, 4), due[day]);
+            x.days(1);
+        }
+        HopeDrawer y = Check.drawerWith("letter a 1 1 1 0; reader r 1 1 1; likes = 0;");
+        y.days(1);
+        for (int time = 1; time <= 30; time++) {
+            y.send(0, 0);
+            S.due("sent " + time + " times by hand", y.reader(0, 4), time);
+            y.takeBack(0);
+        }
+        y.undo();
+        y.undo();
+        S.due("one sending undone", y.reader(0, 4), 29);
     }
 
     private static void readerOthers() {

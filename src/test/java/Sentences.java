@@ -43,7 +43,7 @@ final class Sentences {
         return words.replaceAll("\\s+", " ");
     }
 
-    /** Where is "Terms" or "Promise n". */
+    /** Where is the title of a section, as "Terms" or "Promise n". */
     void holds(String where, String sentence, Runnable test) {
         sentenceNow = where + ", \"" + sentence + "\": ";
         String section = sections.getOrDefault(where, "");

@@ -56,6 +56,7 @@ public final class TextEdgesTest {
     // ---- promises 1 to 5 ----
 
     private static void tape() {
+        S.holds("What it is", "An object is used for at most 512 calls after it has been made", TextEdgesTest::manyCalls);
         S.holds("Promise 1", "No LETTERS, no READERS.", TextEdgesTest::newObject);
         S.holds("Promise 2", "Twenty bytes, the highest of a first, come behind the tape: how many it has.",
             TextEdgesTest::feedOrder);
@@ -83,6 +84,21 @@ public final class TextEdgesTest {
         S.due("barren", x.barren(), 0);
         S.due("a day goes by", x.days(1), 1);
         S.due("nothing came", x.count(3) + x.count(4) + x.count(5) + x.count(6), 0);
+    }
+
+    private static void manyCalls() {
+        HopeDrawer x = new HopeDrawer();
+        for (int call = 1; call < 512; call++) {
+            S.due("call " + call, x.days(60), 60 * call);
+        }
+        S.due("the 512th call", x.count(2), 60 * 511);
+        HopeDrawer y = new HopeDrawer();
+        for (int round = 0; round < 128; round++) {
+            S.due("feed", y.feed(0x77657420, 0x3130303b, 0x20202020, 0x20202020, 0x20202020), 20);
+            S.due("read " + round, y.read(), 0);
+            S.due("wet", y.count(12), 1);
+            S.due("place", y.place(), -1);
+        }
     }
 
     private static void feedOrder() {

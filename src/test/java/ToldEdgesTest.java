@@ -122,6 +122,7 @@ public final class ToldEdgesTest {
         S.holds("Promise 34", "All that was TOLD is forgotten: how many there were.", ToldEdgesTest::forgotten);
         S.holds("Promise 35", "what 0 how many, 1 which (bits)", ToldEdgesTest::whichBits);
         S.holds("Promise 35", "NONE: no such ones.", ToldEdgesTest::whichNoSuch);
+        S.holds("Promise 36", "READ, as KNOWN by k (10 * the mark + v)", ToldEdgesTest::nextMarkAndValue);
         S.holds("Promise 36", "-2: none is left", ToldEdgesTest::nextNoneLeft);
         S.holds("Promise 36", "NONE: no such k.", ToldEdgesTest::nextNoSuch);
     }
@@ -217,6 +218,20 @@ public final class ToldEdgesTest {
         }
         S.due("k 20 of twenty", x.which(20, 0), 3);
         S.due("k 21 of twenty", x.which(21, 0), -1);
+    }
+
+    private static void nextMarkAndValue() {
+        // Two letters that differ in one mark, by one: that mark, and the greater one's value.
+        for (int mark = 0; mark <= 2; mark++) {
+            for (int v = 1; v <= 9; v++) {
+                String less = "4 4 4".substring(0, 2 * mark) + (v - 1) + "4 4 4".substring(2 * mark + 1);
+                String more = "4 4 4".substring(0, 2 * mark) + v + "4 4 4".substring(2 * mark + 1);
+                HopeDrawer x = Check.drawerWith("letter a " + more + " 0; letter b " + less + " 0;");
+                S.due(more + " and " + less, x.next(0), 10 * mark + v);
+                x.tell(mark, v, true);
+                S.due("which it is then", x.which(1, 1), 1);
+            }
+        }
     }
 
     private static void nextNoneLeft() {

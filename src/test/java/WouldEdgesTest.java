@@ -514,6 +514,7 @@ public final class WouldEdgesTest {
         S.holds("Promise 20", "NONE: not so many, i below NONE.", WouldEdgesTest::chainNone);
         S.holds("Terms", "BUNDLE of a LETTER: all to which one comes from it by ANSWERS, either way round, itself too.",
             WouldEdgesTest::bundleEitherWay);
+        S.holds("Promise 21", "BUNDLE (bits)", WouldEdgesTest::bundleBits);
         S.holds("Promise 21", "NONE: no such LETTER.", WouldEdgesTest::bundleNoSuch);
     }
 
@@ -609,6 +610,19 @@ public final class WouldEdgesTest {
         for (int i = 0; i < 7; i++) {
             S.due("all seven from " + i, all.bundle(i), 127);
         }
+    }
+
+    private static void bundleBits() {
+        HopeDrawer alone = Check.drawerWith(FULL);
+        for (int letter = 0; letter < 7; letter++) {
+            S.due("alone " + letter, alone.bundle(letter), 1 << letter);
+        }
+        // The first and the last, by a day between them; all others came on the first one's day.
+        HopeDrawer x = Check.drawerWith("letter a 1 9 1 0; letter b 1 1 1 0; letter c 1 1 1 0; letter d 1 1 1 0; letter e 1 1 1 0;"
+            + "letter f 1 1 1 0; letter g 1 9 1 1; answers = 1 - apart;");
+        S.due("a and g", x.bundle(0), 65);
+        S.due("g and a", x.bundle(6), 65);
+        S.due("f alone", x.bundle(5), 32);
     }
 
     private static void bundleNoSuch() {
@@ -806,6 +820,7 @@ public final class WouldEdgesTest {
         S.holds("Promise 27", "-2: never.", WouldEdgesTest::firstNever);
         S.holds("Terms", "IN n DAYS (0 .. 60; with WET): where a LETTER is; what a READER has; WANT of a READER",
             WouldEdgesTest::inDays);
+        S.holds("Promise 28", "what 0: 0 TO COME, 1 on the SHELF, 2 with a READER, 3 BURNT", WouldEdgesTest::thenWhere);
         S.holds("Promise 28", "1 which READER (-2: none)", WouldEdgesTest::thenWithNobody);
         S.holds("Promise 28", "NONE: no such ones.", WouldEdgesTest::thenNoSuch);
         S.holds("Promise 29", "what 0 the LETTER they have (-2: none), 1 WANT", WouldEdgesTest::readerInNone);
@@ -889,6 +904,18 @@ public final class WouldEdgesTest {
         y.days(3);
         S.due("in 0", y.then(0, 0, 0), 0);
         S.due("in 1", y.then(0, 1, 0), 2);
+    }
+
+    private static void thenWhere() {
+        HopeDrawer x = shelved("letter a 1 1 1 0; letter b 1 1 1 0; letter c 1 1 1 60; letter d 1 1 1 0; reader r 1 1 1;", "1");
+        x.send(0, 0);
+        x.burn(3);
+        int[] where = {2, 1, 0, 3};
+        for (int letter = 0; letter < 4; letter++) {
+            S.due("letter " + letter + " now", x.then(letter, 0, 0), where[letter]);
+            S.due("letter " + letter + " in 59", x.then(letter, 59, 0), where[letter]);
+        }
+        S.due("c in 60", x.then(2, 60, 0), 1);
     }
 
     private static void thenWithNobody() {
